@@ -120,6 +120,7 @@ public final class DaysTest {
         NineLies x = new NineLies();
         DUE.is("7 n 0", x.type(43, 0), NineLies.BAD);
         DUE.is("7 n 9", x.type(43, 9), NineLies.BAD);
+        DUE.is("7 n 9", x.type(Due.packed("++++++++"), 9), NineLies.BAD);
         DUE.is("7 n below", x.type(43, Integer.MIN_VALUE), NineLies.BAD);
         DUE.is("7 n above", x.type(43, Integer.MAX_VALUE), NineLies.BAD);
         DUE.is("7 byte 31", x.type(31, 1), NineLies.BAD);

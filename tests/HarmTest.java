@@ -152,6 +152,25 @@ public final class HarmTest {
         x.set(1, 1);
         DUE.is("15 sundays", x.harm(), -189);
         DUE.is("16 sundays", x.worst(), Due.days(7, 8));
+        x = Due.year("-0/50,+9,-0/1");
+        x.set(1, 2);
+        x.set(0, 1);
+        x.set(2, 3);
+        // 8 L <= 3 D: a WORD is TRUSTED with L 1 on DAY 0 alone, with L 0 on each
+        DUE.is("15 news just behind a lie", x.harm(), -50 + 9);
+        DUE.is("16 news just behind a lie", x.worst(), Due.days(0));
+        DUE.is("15 the same, weeks", x.under(3), -50 + 9);
+        x.set(0, 2);
+        x.set(2, 8);
+        DUE.is("15 news between lies", x.harm(), -50 + 9 - 1);
+        DUE.is("16 news between lies", x.worst(), Due.days(0, 2));
+        DUE.is("15 the same, weeks", x.under(3), -50 + 9);
+        x = Due.year("-0/50,+1,+2,+4,+8,+16,+32,-0/64,+99");
+        x.set(0, 2);
+        x.set(1, 3);
+        x.set(2, 8);
+        DUE.is("15 news of a week", x.harm(), -50 + 63 - 64 + 99);
+        DUE.is("16 news of a week", x.worst(), Due.days(0, 7));
         NineLies y = Due.year(Due.repeat("-0/99", 28, ","));
         y.set(2, 8);
         DUE.is("15 nine of 28", y.harm(), -891);
@@ -206,6 +225,17 @@ public final class HarmTest {
         }
         NineLies y = Due.year("-0/50,-0/50");
         DUE.is("17 the least", y.best(), 0);
+        NineLies w = Due.year(Due.repeat("+1", 8, ","));
+        w.set(0, 1);
+        // 8 <= T D: one of NEWS by T 1, four by 2, all by 8
+        DUE.is("17 eight days", w.best(), 8);
+        w.alter(0, 1, 99);
+        w.alter(7, 0, 0);
+        w.alter(7, 2, 50);
+        for (int d = 1; d < 7; d++) {
+            w.alter(d, 1, 0);
+        }
+        DUE.is("17 just one", w.best(), 1);
         NineLies z = Due.year("+9");
         z.set(0, 1);
         DUE.is("17 the most", z.best(), 8);
@@ -269,6 +299,9 @@ public final class HarmTest {
         sure(7, 0, 99, 99, 1, 1);
         sure(1, 8, 1, 99, 1, 785);
         sure(8, 7, 98, 99, 112, 113);
+        sure(5, 3, 1, 1, 1, 1);
+        sure(5, 3, 0, 1, 0, 1);
+        sure(0, 1, 0, 1, 0, 1);
         sure(0, 0, 5, 9, NineLies.NONE, NineLies.NONE);
         sure(0, 8, 9, 9, NineLies.NONE, NineLies.NONE);
         sure(8, 0, 0, 9, NineLies.NONE, NineLies.NONE);

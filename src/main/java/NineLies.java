@@ -124,10 +124,11 @@ public final class NineLies {
     // ---- 2 harm, trust
 
     public int lawful(int set) {
-        if (!now.days.hasAll(set)) {
+        int refusal = refusalOf(set);
+        if (refusal == BAD) {
             return BAD;
         }
-        return now.isLawful(set) ? 1 : 0;
+        return refusal == FINE ? 1 : 0;
     }
 
     public int wrong(int set) {
@@ -169,7 +170,8 @@ public final class NineLies {
         if (now.tell(LIES) >= MOST_LIES) {
             return NOT - LOWER;
         }
-        return harm() - harmBy(now.tell(LAW), now.tell(LIES) + 1, now.tell(TRUST));
+        int asItIs = harmBy(now.tell(LAW), now.tell(LIES), now.tell(TRUST));
+        return asItIs - harmBy(now.tell(LAW), now.tell(LIES) + 1, now.tell(TRUST));
     }
 
     public int under(int law) {
@@ -265,7 +267,10 @@ public final class NineLies {
             return refusal - LOWER;
         }
         int set = s.readDays(from, n, now.days.many);
-        return set == NOT ? NOT - LOWER : gain(set);
+        if (set == NOT || refusalOf(set) != FINE) {
+            return NOT - LOWER;
+        }
+        return now.gainOf(set);
     }
 
     public int film(int set, int sheet, int lane, int from) {
@@ -345,7 +350,7 @@ public final class NineLies {
         if (!now.days.hasAll(set)) {
             return BAD;
         }
-        return now.isLawful(set) ? FINE : NOT;
+        return now.firstWrong(set) == NONE ? FINE : NOT;
     }
 
     private int harmBy(int law, int lies, int trust) {
@@ -504,7 +509,7 @@ public final class NineLies {
         }
 
         boolean hasNews(int day) {
-            return tell(day, NEWS) == 1;
+            return at(cells, day * THINGS + NEWS) == 1;
         }
 
         int manyWithNews() {
@@ -588,10 +593,6 @@ public final class NineLies {
                 }
             }
             return NONE;
-        }
-
-        boolean isLawful(int set) {
-            return firstWrong(set) == NONE;
         }
 
         /** LIES left on the morning of a DAY, by a set. */
