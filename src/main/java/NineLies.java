@@ -658,11 +658,11 @@ public final class NineLies {
         private final Table least = new Table();
 
         int reckon(Days days, int law, int lies, int trust) {
-            for (int left = 0; left <= lies; left++) {
+            for (int left = 0; left <= lies && left <= MOST_LIES; left++) {
                 least.change(days.many, left, 0);
             }
             for (int d = days.many - 1; d >= 0; d--) {
-                for (int left = 0; left <= lies; left++) {
+                for (int left = 0; left <= lies && left <= MOST_LIES; left++) {
                     least.change(d, left, Math.min(silent(days, d, left, trust), lying(days, law, d, left, trust)));
                 }
             }
@@ -707,11 +707,11 @@ public final class NineLies {
 
         int manyFit(int law, int words, int truths, int lies, int k) {
             int open = words & ~truths;
-            for (int j = 0; j <= k; j++) {
+            for (int j = 0; j <= k && j <= MOST_LIES; j++) {
                 fits.change(MOST_DAYS, j, j == 0 ? 1 : 0);
             }
             for (int d = MOST_DAYS - 1; d >= 0; d--) {
-                for (int j = 0; j <= k; j++) {
+                for (int j = 0; j <= k && j <= MOST_LIES; j++) {
                     int silent = holds(lies, d) ? 0 : fits.tell(d + 1, j);
                     int lying = holds(open, d) ? fitBehind(law, lies, d, j) : 0;
                     fits.change(d, j, silent + lying);
