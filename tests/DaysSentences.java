@@ -119,7 +119,7 @@ final class DaysSentences extends Sentences {
         refused(none, () -> none.alter(0, 0, 0), BAD);
         Court x = Court.of("+10/20,-30/40");
         int[][] bad = {{-1, 1, 5}, {2, 1, 5}, {27, 1, 5}, {28, 1, 5}, {0, -1, 0}, {0, 3, 0}, {0, 0, 2}, {0, 0, -1},
-            {1, 1, 100}, {1, 1, -1}, {1, 2, 100}, {1, 2, -1}, {LEAST, 1, 1}, {MOST, 1, 1}, {0, LEAST, 1}, {0, MOST, 1},
+            {1, 1, 100}, {1, 1, -1}, {1, 2, 100}, {1, 2, -1}, {LEAST, 1, 1}, {MOST, 1, 1}, {1431655766, 1, 1}, {0, LEAST, 1}, {0, MOST, 1},
             {0, 0, MOST}, {0, 1, MOST}, {0, 2, LEAST}};
         for (int[] b : bad) {
             Court y = Court.of("+10/20,-30/40");
@@ -156,6 +156,8 @@ final class DaysSentences extends Sentences {
             is(x.told(wild, 0), BAD);
             is(x.told(0, wild), BAD);
         }
+        // three times this one wraps around to 2
+        is(x.told(1431655766, 0), BAD);
         x.strike();
         is(x.told(2, 0), BAD);
         is(x.told(1, 2), 99);

@@ -68,6 +68,17 @@ final class Document {
         return rest.toString().replaceAll("\\s+", " ").strip();
     }
 
+    /** What the class declares for all, a line each. */
+    List<String> face() {
+        List<String> all = new ArrayList<>();
+        for (String line : parts.getOrDefault("The public face", "").split("(?<=[;{}])")) {
+            if (line.contains("(")) {
+                all.add(line.strip());
+            }
+        }
+        return all;
+    }
+
     int promises() {
         int many = 0;
         for (String part : parts.keySet()) {

@@ -1,4 +1,5 @@
 import java.io.IOException;
+import java.util.List;
 import java.util.function.IntSupplier;
 
 /** What the tests by sentence share: which sentence is tested now, and whether answers are as it says. */
@@ -87,6 +88,11 @@ abstract class Sentences {
 
     static String times(int many, String day) {
         return Due.repeat(day, many, ",");
+    }
+
+    /** The constructor and the methods that the document declares. */
+    static List<String> declared() {
+        return document.face();
     }
 
     static void end() {

@@ -1,9 +1,17 @@
+import java.lang.reflect.Constructor;
+import java.lang.reflect.Method;
+import java.lang.reflect.Modifier;
+import java.util.ArrayList;
+import java.util.Collections;
+import java.util.List;
+
 /** The terms, sentence by sentence: refusals, the YEAR, LAWS, THE COURT. */
 final class TermsSentences extends Sentences {
     private static final String TERMS = "Terms";
 
     static void all() {
         constants();
+        face();
         manyCalls();
         firstNamed();
         badNotFullNoneCast();
@@ -37,6 +45,45 @@ final class TermsSentences extends Sentences {
         for (int i = 0; i < due.length; i++) {
             is(told[i], due[i]);
         }
+    }
+
+    private static void face() {
+        List<String> told = new ArrayList<>();
+        for (Constructor<?> made : NineLies.class.getDeclaredConstructors()) {
+            told.add(Modifier.toString(made.getModifiers()) + " NineLies(" + typesOf(made.getParameterTypes()) + ");");
+        }
+        for (Method method : NineLies.class.getDeclaredMethods()) {
+            if (!Modifier.isPrivate(method.getModifiers())) {
+                told.add(Modifier.toString(method.getModifiers()) + " " + method.getReturnType().getName() + " "
+                    + method.getName() + "(" + typesOf(method.getParameterTypes()) + ");");
+            }
+        }
+        List<String> due = declaredTypes();
+        Collections.sort(told);
+        Collections.sort(due);
+        same("the face", told.toString(), due.toString());
+        is(due.size(), 33);
+    }
+
+    /** What the document declares, each quoted, with the types of its parameters alone. */
+    private static List<String> declaredTypes() {
+        List<String> all = new ArrayList<>();
+        for (String line : declared()) {
+            about("The public face", line);
+            String name = line.substring(line.lastIndexOf(' ', line.indexOf('(')) + 1, line.indexOf('('));
+            is(line.startsWith("public ") ? 1 : 0, 1);
+            is(line.contains(" int " + name + "(") || name.equals("NineLies") ? 1 : 0, 1);
+            all.add(line.replaceAll("(int|long) \\w+([,)])", "$1$2"));
+        }
+        return all;
+    }
+
+    private static String typesOf(Class<?>[] types) {
+        StringBuilder all = new StringBuilder();
+        for (Class<?> type : types) {
+            all.append(all.length() == 0 ? "" : ", ").append(type.getName());
+        }
+        return all.toString();
     }
 
     private static void manyCalls() {
